@@ -6,6 +6,7 @@ public final class HoursTest {
         frostHealsCracks();
         goingAtAPace();
         lanesThatAreTaken();
+        noLaneBesideTheLast();
         noPlaceBears();
         cracksAndBreakingIn();
         mostCracks();
@@ -15,6 +16,7 @@ public final class HoursTest {
         restsAtAHut();
         restsUpToTwenty();
         hourOfTheThaw();
+        thawOfEachSection();
         thawByABreak();
         promise13Count();
         Checks.end();
@@ -169,6 +171,24 @@ public final class HoursTest {
         y.send(2, 1);
         y.pass(2);
         Checks.due("as much ice less 3 * cracks", y.courier(2, 4), 0);
+    }
+
+    private static void noLaneBesideTheLast() {
+        IceLanes x = Checks.stillRiver();
+        x.come(0, 2, 1, 0, false);
+        x.come(11, 0, 1, 0, false);
+        x.send(0, 2);
+        x.send(1, 9);
+        Checks.setSection(x, 1, 60, 0, 2);
+        Checks.setSection(x, 2, 60, 60, 60);
+        Checks.setSection(x, 10, 2, 0, 60);
+        Checks.setSection(x, 9, 60, 60, 60);
+        x.pass(2);
+        dueCourier(x, 0, "along the last lane", 1, 2, 19, 1, 1);
+        dueCourier(x, 1, "along the first lane", 10, 0, 19, 1, 1);
+        x.pass(1);
+        dueCourier(x, 0, "from the last lane", 2, 1, 18, 2, 2);
+        dueCourier(x, 1, "from the first lane", 9, 0, 18, 2, 2);
     }
 
     private static void noPlaceBears() {
@@ -344,6 +364,16 @@ public final class HoursTest {
         Checks.due("the thaw in warmth", x.count(10), 1);
         x.pass(100);
         Checks.due("the thaw is told once", x.count(10), 1);
+    }
+
+    private static void thawOfEachSection() {
+        for (int section = 0; section < 12; section++) {
+            IceLanes x = Checks.stillRiver();
+            Checks.setSection(x, section, 0, 0, 0);
+            Checks.due("open water", x.count(6), 3);
+            x.pass(1);
+            Checks.due("the thaw by section " + section, x.count(10), 0);
+        }
     }
 
     private static void thawByABreak() {

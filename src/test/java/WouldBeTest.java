@@ -5,6 +5,7 @@ public final class WouldBeTest {
         promise14BearsAlongLanes();
         promise15Arrives();
         promise15ArrivesOfOnesWhoBreakIn();
+        promise15ArrivesWithLettersAndHuts();
         promise15ArrivesAtMost150();
         promise16Best();
         promise16BestOfOthers();
@@ -103,6 +104,25 @@ public final class WouldBeTest {
         Checks.due("arrives(2) over the place of one who broke in", y.arrives(2), -1);
     }
 
+    private static void promise15ArrivesWithLettersAndHuts() {
+        IceLanes x = Checks.stillRiver();
+        x.come(0, 0, 20, 8, false);
+        x.send(0, 1);
+        Checks.due("arrives(0) with 8 letters", x.arrives(0), -1);
+        x.load(0, -1);
+        Checks.due("arrives(0) with 7 letters", x.arrives(0), 2);
+        IceLanes y = Checks.stillRiver();
+        y.come(0, 0, 1, 0, false);
+        y.send(0, 11);
+        y.pass(12);
+        y.send(0, 0);
+        Checks.due("arrives(0) with a long rest", y.arrives(0), 1 + 10 + 10 + 1);
+        y.build(1);
+        Checks.due("arrives(0) with a rest at a hut", y.arrives(0), 1 + 10 + 3 + 1);
+        y.pass(15);
+        Checks.due("the section behind these hours", y.courier(0, 3), 0);
+    }
+
     private static void promise15ArrivesAtMost150() {
         IceLanes x = Checks.stillRiver();
         x.setWarm(12, -9);
@@ -179,6 +199,11 @@ public final class WouldBeTest {
         Checks.due("count(10) in the hour", x.count(10), 7);
         x.pass(200);
         Checks.due("thaw() when it has come", x.thaw(), 7);
+        IceLanes z = Checks.stillRiver();
+        Checks.setSection(z, 3, 0, 0, 0);
+        Checks.due("thaw() of open water", z.thaw(), 0);
+        z.setIce(3, 1, 1);
+        Checks.due("thaw() when there is ice again", z.thaw(), -1);
         IceLanes y = Checks.stillRiver();
         y.come(0, 0, 20, 0, false);
         y.send(0, 1);
