@@ -11,6 +11,7 @@ public final class HoursTest {
         cracksAndBreakingIn();
         mostCracks();
         onesByTheirNumbers();
+        eightAtOnce();
         strengthThatRunsOut();
         skaterWhoseStrengthRunsOut();
         restsAtAHut();
@@ -274,6 +275,18 @@ public final class HoursTest {
         dueCourier(x, 1, "who goes next", 1, 1, 19, 3, 1);
         Checks.due("open water", x.count(6), 2);
         Checks.due("the thaw by these", x.count(10), -1);
+    }
+
+    private static void eightAtOnce() {
+        IceLanes x = Checks.stillRiver();
+        for (int i = 0; i < 8; i++) {
+            x.come(i, 1, 1, 0, i % 2 == 0);
+            x.send(i, i + 4);
+        }
+        Checks.due("arrivals of skaters", x.pass(3), 4);
+        Checks.due("arrivals of sleds", x.pass(2), 4);
+        Checks.due("those at 11", x.place(11, 0, 3), 1);
+        Checks.due("those who have arrived", x.count(3), 8);
     }
 
     private static void strengthThatRunsOut() {

@@ -20,6 +20,7 @@ public final class RiverTest {
             for (int lane = 0; lane < 3; lane++) {
                 Checks.due("the first ice", x.place(section, lane, 0), 30);
                 Checks.due("the first cracks", x.place(section, lane, 1), 0);
+                Checks.due("the couriers of a place without any", x.place(section, lane, 3), 0);
             }
         }
         for (int day = 0; day < 14; day++) {
