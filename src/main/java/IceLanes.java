@@ -20,7 +20,8 @@ public final class IceLanes {
     private static final int MOST_STRENGTH = 20;
     private static final int STRENGTH_TO_GO = 10;
     private static final int STRENGTH_OF_A_REST = 1;
-    private static final int STRENGTH_OF_A_HUT_REST = 4;
+    /** On top of that of a rest. */
+    private static final int STRENGTH_OF_A_HUT = 4;
     private static final int SKATER_PACE = 2;
     private static final int SLED_PACE = 1;
 
@@ -410,10 +411,10 @@ public final class IceLanes {
         /** Puts a load on a place that bears it; returns whether the place bears it then, too. */
         private boolean withstands(int section, int lane, int load) {
             int place = placeOf(section, lane);
-            if (!holds(section, lane, 2 * load)) {
+            if (soundness(section, lane) < 2 * load) {
                 cracks[place] = Math.min(MOST_CRACKS, cracks[place] + 1);
             }
-            if (holds(section, lane, load)) {
+            if (soundness(section, lane) >= load) {
                 return true;
             }
             thickness[place] = 0;
@@ -685,7 +686,7 @@ public final class IceLanes {
                 return;
             }
             boolean isAtHut = hut[couriers.section[courier]] == 1;
-            int more = isAtHut ? STRENGTH_OF_A_HUT_REST : STRENGTH_OF_A_REST;
+            int more = STRENGTH_OF_A_REST + (isAtHut ? STRENGTH_OF_A_HUT : 0);
             couriers.strength[courier] = Math.min(MOST_STRENGTH, couriers.strength[courier] + more);
             if (!couriers.isAtGoal(courier) && couriers.strength[courier] >= STRENGTH_TO_GO) {
                 couriers.state[courier] = GOES;

@@ -15,6 +15,7 @@ public final class HoursTest {
         strengthThatRunsOut();
         skaterWhoseStrengthRunsOut();
         restsAtAHut();
+        restsAtAHutInEachLane();
         restsUpToTwenty();
         hourOfTheThaw();
         thawOfEachSection();
@@ -318,31 +319,62 @@ public final class HoursTest {
         IceLanes x = tiredAtSectionOne(false);
         x.build(1);
         x.pass(1);
-        dueCourier(x, 0, "behind an hour at a hut", 1, 0, 4, 0, 21);
+        dueCourier(x, 0, "behind an hour at a hut", 1, 0, 5, 0, 21);
         x.pass(1);
-        dueCourier(x, 0, "behind two hours at a hut", 1, 0, 8, 0, 21);
+        dueCourier(x, 0, "behind two hours at a hut", 1, 0, 10, 1, 21);
         x.pass(1);
-        dueCourier(x, 0, "behind three hours at a hut", 1, 0, 12, 1, 21);
+        dueCourier(x, 0, "who went on from a hut", 0, 0, 9, 2, 22);
         IceLanes y = tiredAtSectionOne(false);
         y.build(0);
         y.build(2);
         y.pass(1);
         dueCourier(y, 0, "beside huts", 1, 0, 1, 0, 21);
+        y.build(1);
+        y.pass(1);
+        dueCourier(y, 0, "at a hut built in the rest", 1, 0, 6, 0, 21);
+        y.pass(1);
+        dueCourier(y, 0, "behind an hour more at it", 1, 0, 11, 1, 21);
+    }
+
+    private static void restsAtAHutInEachLane() {
+        for (int lane = 0; lane < 3; lane++) {
+            IceLanes x = Checks.stillRiver();
+            for (int section = 0; section <= 7; section++) {
+                Checks.setSection(x, section, lane == 0 ? 30 : 0, lane == 1 ? 30 : 0, lane == 2 ? 30 : 0);
+            }
+            x.build(7);
+            for (int courier = 0; courier < 2; courier++) {
+                x.come(0, lane, 1, 0, courier == 1);
+                x.send(courier, 7);
+            }
+            x.pass(8);
+            x.send(0, 7);
+            x.pass(1);
+            dueCourier(x, 0, "who rests at a hut in lane " + lane, 7, lane, 18, 0, 7);
+            dueCourier(x, 1, "who has arrived at a hut in lane " + lane, 7, lane, 13, 2, 7);
+        }
     }
 
     private static void restsUpToTwenty() {
+        dueRestAtAHut(4, 16, 20);
+        dueRestAtAHut(5, 15, 20);
+        dueRestAtAHut(6, 14, 19);
+        dueRestAtAHut(9, 11, 16);
+    }
+
+    /** The strength behind a way of so many steps, and behind an hour of rest at the hut at its end. */
+    private static void dueRestAtAHut(int steps, int arrived, int rested) {
         IceLanes x = Checks.stillRiver();
+        x.build(steps);
         x.come(0, 0, 1, 0, false);
-        x.send(0, 3);
-        x.pass(4);
-        x.build(3);
-        x.pass(3);
-        dueCourier(x, 0, "who has arrived at a hut", 3, 0, 17, 2, 3);
-        x.send(0, 3);
+        x.send(0, steps);
+        x.pass(steps + 3);
+        dueCourier(x, 0, "who has arrived at a hut", steps, 0, arrived, 2, steps);
+        x.send(0, steps);
         x.pass(1);
-        dueCourier(x, 0, "who rests at a hut", 3, 0, 20, 0, 3);
+        dueCourier(x, 0, "who rests at a hut", steps, 0, rested, 0, steps);
         x.pass(3);
-        dueCourier(x, 0, "who rests on at a hut", 3, 0, 20, 0, 3);
+        dueCourier(x, 0, "who rests on at a hut", steps, 0, 20, 0, steps);
     }
 
     /** A courier, number 0, goes from 0 to 11 and back to 0, and has no strength left at 1. */

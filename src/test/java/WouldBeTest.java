@@ -118,8 +118,8 @@ public final class WouldBeTest {
         y.send(0, 0);
         Checks.due("arrives(0) with a long rest", y.arrives(0), 1 + 10 + 10 + 1);
         y.build(1);
-        Checks.due("arrives(0) with a rest at a hut", y.arrives(0), 1 + 10 + 3 + 1);
-        y.pass(15);
+        Checks.due("arrives(0) with a rest at a hut", y.arrives(0), 1 + 10 + 2 + 1);
+        y.pass(14);
         Checks.due("the section behind these hours", y.courier(0, 3), 0);
     }
 
