@@ -4,14 +4,16 @@ import java.util.List;
 /**
  * Long runs of calls, drawn by a fixed rule, checked without numbers written by hand: a call with wrong
  * arguments throws what is due and changes nothing, and what is told ahead comes true when a second
- * object, on which the same calls were made, is let run.
+ * object, on which the same calls were made, is let run. Each check stands on an object of its own, since
+ * no object is promised to be right for more than 512 calls.
  */
 public final class RandomRunsTest {
     private static final int RUNS = 400;
     private static final int CALLS = 60;
 
     private final List<int[]> calls = new ArrayList<>();
-    private final IceLanes x = new IceLanes();
+    /** The one that is checked now; the same calls were made on each before. */
+    private IceLanes x = new IceLanes();
     private long seed;
 
     private RandomRunsTest(int run) {
@@ -27,6 +29,7 @@ public final class RandomRunsTest {
 
     private void run(int run) {
         for (int i = 0; i < CALLS; i++) {
+            x = again();
             int[] call = drawn();
             String want = exceptionDue(call);
             long before = x.digest();
@@ -39,14 +42,13 @@ public final class RandomRunsTest {
             }
             calls.add(call);
         }
-        long before = x.digest();
         bearsIsTheBestWay();
         thawComesTrue();
-        for (int courier = 0; courier < x.count(1); courier++) {
+        int couriers = again().count(1);
+        for (int courier = 0; courier < couriers; courier++) {
             arrivesComesTrue(courier);
             bestComesTrue(courier);
         }
-        Checks.due("run " + run + ": the digest behind looks ahead", x.digest(), before);
     }
 
     private int draw(int bound) {
@@ -169,33 +171,39 @@ public final class RandomRunsTest {
     }
 
     private void bearsIsTheBestWay() {
+        x = again();
+        int[] borne = new int[36];
+        for (int place = 0; place < 36; place++) {
+            borne[place] = x.place(place / 3, place % 3, 2);
+        }
         int from = draw(12);
         int to = draw(12);
         int best = 0;
         for (int lane = 0; lane < 3; lane++) {
-            best = Math.max(best, bestWay(from, lane, to));
+            best = Math.max(best, bestWay(borne, from, lane, to));
         }
         Checks.due("bears(" + from + ", " + to + ")", x.bears(from, to), best);
     }
 
-    private int bestWay(int section, int lane, int to) {
-        int here = x.place(section, lane, 2);
+    private static int bestWay(int[] borne, int section, int lane, int to) {
+        int here = borne[3 * section + lane];
         if (section == to) {
             return here;
         }
         int best = 0;
         for (int next = Math.max(0, lane - 1); next <= Math.min(2, lane + 1); next++) {
-            best = Math.max(best, bestWay(section < to ? section + 1 : section - 1, next, to));
+            best = Math.max(best, bestWay(borne, section < to ? section + 1 : section - 1, next, to));
         }
         return Math.min(here, best);
     }
 
     private void thawComesTrue() {
-        IceLanes y = again();
-        for (int hours = 0; hours < 720 && y.count(10) == -1; hours++) {
-            y.pass(1);
-        }
-        Checks.due("thaw()", x.thaw(), y.count(10));
+        x = again();
+        long before = x.digest();
+        int told = x.thaw();
+        Checks.due("the digest behind thaw()", x.digest(), before);
+        Checks.passLong(x, 720);
+        Checks.due("thaw()", told, x.count(10));
     }
 
     private static int hoursOf(IceLanes y, int courier) {
@@ -215,25 +223,43 @@ public final class RandomRunsTest {
     }
 
     private void arrivesComesTrue(int courier) {
+        x = again();
+        long before = x.digest();
         Checks.due("arrives(" + courier + ")", x.arrives(courier), hoursOf(again(), courier));
+        Checks.due("the digest behind arrives(" + courier + ")", x.digest(), before);
     }
 
-    /** Tries the letters that can be loaded here; the others are known only to be no better if best is less. */
     private void bestComesTrue(int courier) {
+        x = again();
+        long before = x.digest();
         int best = x.best(courier);
+        Checks.due("the digest behind best(" + courier + ")", x.digest(), before);
         for (int letters = 0; letters <= 20; letters++) {
-            int more = letters - x.courier(courier, 1);
-            if (more != 0 && !canCarry(courier, letters)) {
-                continue;
-            }
             IceLanes y = again();
-            if (more != 0) {
-                y.load(courier, more);
+            if (!carriesInstead(y, courier, letters)) {
+                continue;
             }
             boolean arrives = hoursOf(y, courier) >= 0;
             if (letters == best && !arrives || letters > best && arrives) {
                 Checks.tell("best(" + courier + ") answered " + best + ", but " + letters + " arrives: " + arrives);
             }
         }
+    }
+
+    /** Loads a courier with these letters, on ice of 60 for as long as that takes; not if even this is too thin. */
+    private static boolean carriesInstead(IceLanes y, int courier, int letters) {
+        int more = letters - y.courier(courier, 1);
+        if (more == 0) {
+            return true;
+        }
+        int section = y.courier(courier, 3);
+        int lane = y.courier(courier, 4);
+        int ice = y.setIce(section, lane, 60);
+        boolean canLoad = y.courier(courier, 6) != 3 && y.place(section, lane, 2) >= y.courier(courier, 0) + letters;
+        if (canLoad) {
+            y.load(courier, more);
+        }
+        y.setIce(section, lane, ice);
+        return canLoad;
     }
 }
