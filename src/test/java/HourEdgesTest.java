@@ -644,7 +644,7 @@ public final class HourEdgesTest {
         Checks.due("thaw()", x.thaw(), 0);
     }
 
-    /** Courier number 0 has gone from 0 to 11, and from there, with strength of 10, to 1: its goal, or a step from it. */
+    /** Courier number 0 has gone from 0 to 11, and with strength of 10 to 1, which is its goal or a step from it. */
     private static IceLanes tired(boolean skates, int goal) {
         IceLanes x = Checks.stillRiver();
         x.come(0, 0, 1, 0, skates);

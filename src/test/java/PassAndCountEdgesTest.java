@@ -177,6 +177,20 @@ public final class PassAndCountEdgesTest {
         IceLanes x = Checks.crackedRiver(9);
         x.setIce(1, 0, 0);
         Checks.due("count(5) with the cracks of open water", x.count(5), 9);
+        dueCrackAtTheEnd(0, 0, 1);
+        dueCrackAtTheEnd(11, 2, 10);
+    }
+
+    /** "All cracks", those of the first and of the last place, too. */
+    private static void dueCrackAtTheEnd(int section, int lane, int from) {
+        IceLanes x = Checks.stillRiver();
+        Checks.setSection(x, section, 0, 0, 0);
+        x.setIce(section, lane, 30);
+        x.come(from, lane, 20, 0, false);
+        x.send(0, section);
+        x.pass(2);
+        Checks.due("the cracks at " + section + ", " + lane, x.place(section, lane, 1), 1);
+        Checks.due("count(5) with those at " + section + ", " + lane, x.count(5), 1);
     }
 
     private static void countOpenWater() {

@@ -139,7 +139,7 @@ public final class WagersEdgesTest {
         dueWins(thawedOn(510, 0), 1);
     }
 
-    /** "Those on the nearest days to it (with the least difference, without its sign) win"; ".. or if it wins nothing." */
+    /** "Those on the nearest days to it (with the least difference, without its sign) win", the others 0. */
     private static void winsOfTheNearestDays() {
         dueWins(thawedOn(5, 5, 4, 6), 6, 0, 0);
         dueWins(thawedOn(5, 4, 6), 1, 1);

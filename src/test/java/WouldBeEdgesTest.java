@@ -13,6 +13,8 @@ public final class WouldBeEdgesTest {
         arrivesOfNoCourier();
         arrivesAtTheGoalNow();
         arrivesBehindAnHourAndMore();
+        arrivesFromEachLane();
+        arrivesBehindRests();
         arrivesAtMost150();
         arrivesNever();
         arrivesOfOneWhoBrokeIn();
@@ -174,6 +176,38 @@ public final class WouldBeEdgesTest {
         Checks.due("arrives(0) of one who goes", x.arrives(0), 1);
         Checks.due("arrivals then", x.pass(1), 1);
         Checks.due("arrives(0) behind", x.arrives(0), 0);
+    }
+
+    /** From lane 0 none gets to lane 2 in a step, nor from lane 2 to lane 0. */
+    private static void arrivesFromEachLane() {
+        for (int lane = 0; lane < 3; lane++) {
+            for (int open = 0; open < 3; open++) {
+                IceLanes x = Checks.stillRiver();
+                x.come(0, lane, 1, 0, false);
+                x.send(0, 1);
+                Checks.setSection(x, 1, 0, 0, 0);
+                x.setIce(1, open, 2);
+                int due = Math.abs(lane - open) <= 1 ? 2 : -1;
+                Checks.due("arrives(0) from lane " + lane + " to lane " + open, x.arrives(0), due);
+                Checks.due("best(0) from lane " + lane + " to lane " + open, x.best(0), due == 2 ? 0 : -1);
+            }
+        }
+    }
+
+    /** One who rests, or has to rest on the way, arrives when that is over; a hut makes it shorter. */
+    private static void arrivesBehindRests() {
+        IceLanes x = Checks.stillRiver();
+        x.come(0, 0, 1, 0, false);
+        x.send(0, 11);
+        x.pass(12);
+        x.send(0, 0);
+        Checks.due("arrives(0) behind ten hours of rest", x.arrives(0), 22);
+        x.build(0);
+        Checks.due("arrives(0) with a hut at the goal", x.arrives(0), 22);
+        x.build(1);
+        Checks.due("arrives(0) with a hut where one rests", x.arrives(0), 14);
+        Checks.due("arrivals ahead of then", x.pass(13), 0);
+        Checks.due("arrivals then", x.pass(1), 1);
     }
 
     /** "At most 150; -1 if not by then." */
